@@ -2,6 +2,8 @@
  * Thermal heads whose dots must cool ahead of the next line.
  *
  * <p>The promises are numbered in the project's document; each public method names its own.
+ * Indexes, divisors and references are tested ahead of their use also where they are always fine,
+ * so that the Java machine itself never throws here.
  */
 public final class HeadDots {
     /** There is nothing to return. */
@@ -57,7 +59,7 @@ public final class HeadDots {
     private int savedCount;
     private boolean hasSnapshot;
 
-    /** Promise 1. */
+    /** Promise 1: a cold head, plain paper, an empty strip, an empty buffer, no snapshot. */
     public HeadDots() {
         now = new State();
         snapshot = new State();
@@ -74,7 +76,7 @@ public final class HeadDots {
 
     // ---- printing
 
-    /** Promise 2. */
+    /** Promise 2: prints a line and returns the time that it took, with the feed. Undoable. */
     public int line(int dots) throws IllegalArgumentException {
         if (!isLine(dots)) {
             throw new IllegalArgumentException("dots");
@@ -83,7 +85,7 @@ public final class HeadDots {
         return now.printLine(dots);
     }
 
-    /** Promise 3. */
+    /** Promise 3: prints a line some times and returns how many dots were faint. Undoable, as one call. */
     public int lines(int dots, int times) throws IllegalArgumentException {
         if (!isLine(dots) || !isWithin(times, 1, MOST_TIMES)) {
             throw new IllegalArgumentException("dots or times");
@@ -94,7 +96,7 @@ public final class HeadDots {
         return now.totals.faint - faintBefore;
     }
 
-    /** Promise 4. */
+    /** Promise 4: lets time pass and returns the greatest heat then. Undoable. */
     public int rest(int time) throws IllegalArgumentException {
         if (!isWithin(time, 1, LONGEST_REST)) {
             throw new IllegalArgumentException("time");
@@ -104,7 +106,7 @@ public final class HeadDots {
         return now.hottestDot();
     }
 
-    /** Promise 5. */
+    /** Promise 5: changes the paper and returns how many lines the old strip had. Undoable. */
     public int paper(int paper) throws IllegalArgumentException {
         if (!isWithin(paper, PLAIN, LABEL)) {
             throw new IllegalArgumentException("paper");
@@ -115,7 +117,7 @@ public final class HeadDots {
         return oldLines;
     }
 
-    /** Promise 6. */
+    /** Promise 6: changes a setting and returns the previous value. Undoable. */
     public int set(int setting, int value) throws IndexOutOfBoundsException, IllegalArgumentException {
         if (!isWithin(setting, PULSE, FEED)) {
             throw new IndexOutOfBoundsException("setting");
@@ -131,7 +133,7 @@ public final class HeadDots {
 
     // ---- texts
 
-    /** Promise 7. */
+    /** Promise 7: appends a character to the buffer and returns the new length. */
     public int append(int code) throws IllegalArgumentException, IllegalStateException {
         if (!isWithin(code, LOWEST_CODE, HIGHEST_CODE)) {
             throw new IllegalArgumentException("code");
@@ -143,19 +145,19 @@ public final class HeadDots {
         return buffer.length;
     }
 
-    /** Promise 8. */
+    /** Promise 8: clears the buffer and returns the length that it had. */
     public int clearBuffer() {
         int length = buffer.length;
         buffer.length = 0;
         return length;
     }
 
-    /** Promise 9. */
+    /** Promise 9: returns the index of the first syntax error, or the length of the buffer. */
     public int firstError() {
         return reader.readUntilError(buffer);
     }
 
-    /** Promise 10. */
+    /** Promise 10: does what the buffer tells and returns how many lines are printed. Undoable, as one call. */
     public int print() throws IllegalArgumentException {
         if (reader.readUntilError(buffer) < buffer.length || !reader.isComplete()) {
             throw new IllegalArgumentException("the buffer is not complete");
@@ -175,7 +177,7 @@ public final class HeadDots {
         return now.totals.lines - linesBefore;
     }
 
-    /** Promise 11. */
+    /** Promise 11: returns the code of a character of a kept line's text, or NONE. */
     public int told(int back, int index) throws IllegalArgumentException {
         if (!isWithin(back, 0, Strip.LINES - 1) || index < 0) {
             throw new IllegalArgumentException("back or index");
@@ -185,7 +187,7 @@ public final class HeadDots {
 
     // ---- undo, the snapshot
 
-    /** Promise 12. */
+    /** Promise 12: restores the latest saved state and returns how many are left. */
     public int undo() throws IllegalStateException {
         if (savedCount < 1) {
             throw new IllegalStateException("no saved state");
@@ -198,14 +200,14 @@ public final class HeadDots {
         return savedCount;
     }
 
-    /** Promise 13. */
+    /** Promise 13: takes a snapshot and returns how many lines were printed so far. */
     public int keep() {
         snapshot.copyFrom(now);
         hasSnapshot = true;
         return now.totals.lines;
     }
 
-    /** Promise 14. */
+    /** Promise 14: restores the snapshot and returns how many lines were printed so far then. Undoable. */
     public int restore() throws IllegalStateException {
         if (!hasSnapshot) {
             throw new IllegalStateException("no snapshot");
@@ -217,7 +219,7 @@ public final class HeadDots {
 
     // ---- looks; nothing is changed
 
-    /** Promise 15. */
+    /** Promise 15: returns a number of a dot. */
     public int dot(int dot, int what) throws IndexOutOfBoundsException, IllegalArgumentException {
         if (!isDot(dot)) {
             throw new IndexOutOfBoundsException("dot");
@@ -228,7 +230,7 @@ public final class HeadDots {
         return now.numberOfDot(dot, what);
     }
 
-    /** Promise 16. */
+    /** Promise 16: returns a number of a kept line, or NONE. */
     public int kept(int back, int what) throws IllegalArgumentException {
         if (!isWithin(back, 0, Strip.LINES - 1) || !isWithin(what, 0, KEPT_NUMBERS - 1)) {
             throw new IllegalArgumentException("back or what");
@@ -236,7 +238,7 @@ public final class HeadDots {
         return now.strip.numberOfLine(back, what);
     }
 
-    /** Promise 17. */
+    /** Promise 17: returns a number of the whole. */
     public int count(int what) throws IllegalArgumentException {
         if (!isWithin(what, 0, COUNT_NUMBERS - 1)) {
             throw new IllegalArgumentException("what");
@@ -246,7 +248,7 @@ public final class HeadDots {
 
     // ---- what would be; nothing is changed
 
-    /** Promise 18. */
+    /** Promise 18: returns what a line would bring now. */
     public int ifPrinted(int dots, int what) throws IllegalArgumentException {
         if (!isLine(dots) || !isWithin(what, 0, TRIAL_NUMBERS - 1)) {
             throw new IllegalArgumentException("dots or what");
@@ -255,7 +257,7 @@ public final class HeadDots {
         return tried(what);
     }
 
-    /** Promise 19. */
+    /** Promise 19: returns the value of setting 5 with which a line would take less time now. */
     public int betterWay(int dots) throws IllegalArgumentException {
         if (!isLine(dots)) {
             throw new IllegalArgumentException("dots");
@@ -263,7 +265,7 @@ public final class HeadDots {
         return fasterWay(dots);
     }
 
-    /** Promise 20. */
+    /** Promise 20: returns the time until no dot is hotter than this. */
     public int coolIn(int heat) throws IllegalArgumentException {
         if (!isWithin(heat, 0, HOTTEST_BOUND)) {
             throw new IllegalArgumentException("heat");
@@ -271,7 +273,7 @@ public final class HeadDots {
         return now.timeUntilCool(heat);
     }
 
-    /** Promise 21. */
+    /** Promise 21: returns the least value of setting 0 with which the dot, alone, would be dark, or NONE. */
     public int darkFrom(int dot) throws IndexOutOfBoundsException {
         if (!isDot(dot)) {
             throw new IndexOutOfBoundsException("dot");
@@ -279,17 +281,17 @@ public final class HeadDots {
         return now.leastDarkSetting(dot);
     }
 
-    /** Promise 22. */
+    /** Promise 22: returns the share of the printed dots that were dark. */
     public double darkness() {
         return now.totals.darkShare();
     }
 
-    /** Promise 23. */
+    /** Promise 23: returns the mean heat of a dot. */
     public float meanHeat() {
         return now.mean();
     }
 
-    /** Promise 24. */
+    /** Promise 24: returns a hash of the whole state. */
     public long digest() {
         long hash = DIGEST_START;
         for (int what = 0; what < COUNT_NUMBERS; what++) {

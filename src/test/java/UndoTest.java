@@ -1,0 +1,121 @@
+/** Promises 12 to 14: undo, keep, restore. */
+public final class UndoTest {
+    /** A hash of the state without the saved states: the same head, with none saved. */
+    private static long stateOf(HeadDots head) {
+        long hash = 7;
+        for (int what = 0; what < 18; what++) {
+            hash = 31 * hash + head.count(what);
+        }
+        for (int dot = 0; dot < 24; dot++) {
+            for (int what = 0; what < 7; what++) {
+                hash = 31 * hash + head.dot(dot, what);
+            }
+        }
+        for (int back = 0; back < 12; back++) {
+            for (int what = 0; what < 3; what++) {
+                hash = 31 * hash + head.kept(back, what);
+            }
+        }
+        return hash;
+    }
+
+    private static void change(HeadDots head, int kind) {
+        switch (kind) {
+            case 0: head.line(0xf0f0f0); break;
+            case 1: head.lines(0x123456, 14); break;
+            case 2: head.rest(30); break;
+            case 3: head.paper(2); break;
+            case 4: head.set(5, 1); break;
+            case 5: head.set(0, 299); break;
+            case 6: head.restore(); break;
+            default: Check.type(head, "line00ff00*2;paper:fine;empty"); head.print(); break;
+        }
+    }
+
+    private static void undoOfEach() {
+        for (int kind = 0; kind < 8; kind++) {
+            HeadDots head = new HeadDots();
+            head.line(0xff);
+            head.keep();
+            head.line(0xff00);
+            long before = stateOf(head);
+            change(head, kind);
+            Check.due("change " + kind + " changes", 1, stateOf(head) != before ? 1 : 0);
+            Check.due("saved states", 3, head.count(18));
+            Check.due("undo " + kind, 2, head.undo());
+            Check.due("state behind undo " + kind, before, stateOf(head));
+        }
+    }
+
+    private static void sixStates() {
+        HeadDots head = new HeadDots();
+        for (int i = 1; i <= 9; i++) {
+            head.rest(i);
+            Check.due("saved states", Math.min(6, i), head.count(18));
+        }
+        for (int left = 5; left >= 0; left--) {
+            Check.due("undo", left, head.undo());
+            Check.due("time", (left + 3) * (left + 4) / 2, head.count(0));
+            Check.due("saved states", left, head.count(18));
+        }
+        Check.dueThrow("undo of none", Check.STATE, head, head::undo);
+        head.rest(1);
+        head.rest(1);
+        head.undo();
+        head.rest(5);
+        Check.due("saved states", 2, head.count(18));
+        Check.due("undo", 1, head.undo());
+        Check.due("undo of the last one", 0, head.undo());
+        Check.due("time", 6, head.count(0));
+        Check.dueThrow("undo of none", Check.STATE, head, head::undo);
+    }
+
+    private static void savesWithoutAChange() {
+        HeadDots head = new HeadDots();
+        head.paper(0);
+        head.set(0, 120);
+        head.keep();
+        head.restore();
+        Check.due("saved states", 3, head.count(18));
+    }
+
+    private static void snapshots() {
+        HeadDots head = new HeadDots();
+        Check.dueThrow("restore of none", Check.STATE, head, head::restore);
+        Check.due("keep", 0, head.keep());
+        Check.due("keep is not undoable", 0, head.count(18));
+        head.lines(0xff, 13);
+        head.set(0, 60);
+        head.paper(1);
+        head.line(5);
+        Check.type(head, "rest");
+        long kept = stateOf(head);
+        Check.due("keep in place of the one before", 14, head.keep());
+        head.lines(0xffff, 5);
+        long later = stateOf(head);
+        Check.due("restore", 14, head.restore());
+        Check.due("state of the snapshot", kept, stateOf(head));
+        Check.due("saved states", 6, head.count(18));
+        Check.due("the buffer stays", 5, head.append('1'));
+        Check.due("undo of restore", 5, head.undo());
+        Check.due("state before restore", later, stateOf(head));
+        head.rest(9);
+        Check.due("restore again", 14, head.restore());
+        Check.due("state of the snapshot", kept, stateOf(head));
+        head.line(1);
+        Check.due("the snapshot is not changed by what is printed", 14, head.restore());
+        Check.due("state of the snapshot", kept, stateOf(head));
+        while (head.count(18) > 0) {
+            head.undo();
+        }
+        Check.due("undo leaves the snapshot", 14, head.restore());
+    }
+
+    public static void main(String[] args) {
+        undoOfEach();
+        sixStates();
+        savesWithoutAChange();
+        snapshots();
+        Check.end();
+    }
+}
