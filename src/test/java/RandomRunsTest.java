@@ -1,7 +1,10 @@
 /** All promises: long runs of calls, the same ones on HeadDots and on the model. */
 public final class RandomRunsTest {
-    private static final int RUNS = 60;
-    private static final int CALLS = 500;
+    private static final int RUNS = 120;
+    /** What an object answers behind so many calls is free. */
+    private static final int CALLS = 512;
+    /** A round is a change, of at most 60 characters and 3 calls, 10 looks and a digest. */
+    private static final int CALLS_OF_A_ROUND = 74;
     private static final String[] TEXTS = {
         "line00ff0f", "line00ff0f*20", "line123456*3", "lineffffff*19", "empty", "rest1", "rest999",
         "paper:plain", "paper:fine", "paper:label", "line0000f*", "lineabcdeg", "rest0", "rest1000",
@@ -10,6 +13,7 @@ public final class RandomRunsTest {
     };
 
     private long seed;
+    private int calls;
 
     private int roll(int below) {
         seed = seed * 6364136223846793005L + 1442695040888963407L;
@@ -42,7 +46,8 @@ public final class RandomRunsTest {
         }
     }
 
-    private static void same(String what, Check.Call model, Check.Call head) {
+    private void same(String what, Check.Call model, Check.Call head) {
+        calls++;
         Check.dueText(what, Check.outcome(model), Check.outcome(head));
     }
 
@@ -125,6 +130,7 @@ public final class RandomRunsTest {
         same("betterWay " + dots, () -> model.betterWay(dots), () -> head.betterWay(dots));
         same("coolIn " + heat, () -> model.coolIn(heat), () -> head.coolIn(heat));
         same("darkFrom " + dot, () -> model.darkFrom(dot), () -> head.darkFrom(dot));
+        calls += 2;
         Check.dueDouble("darkness", model.darkness(), head.darkness());
         Check.dueFloat("meanHeat", model.meanHeat(), head.meanHeat());
     }
@@ -133,9 +139,11 @@ public final class RandomRunsTest {
         seed = 7919L * number + 1;
         Model model = new Model();
         HeadDots head = new HeadDots();
-        for (int call = 0; call < CALLS; call += 12) {
+        calls = 0;
+        while (calls + CALLS_OF_A_ROUND <= CALLS) {
             change(model, head);
             look(model, head);
+            calls++;
             Check.due("run " + number + ", digest", model.digest(), head.digest());
         }
     }

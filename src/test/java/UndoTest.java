@@ -1,24 +1,5 @@
 /** Promises 12 to 14: undo, keep, restore. */
 public final class UndoTest {
-    /** A hash of the state without the saved states: the same head, with none saved. */
-    private static long stateOf(HeadDots head) {
-        long hash = 7;
-        for (int what = 0; what < 18; what++) {
-            hash = 31 * hash + head.count(what);
-        }
-        for (int dot = 0; dot < 24; dot++) {
-            for (int what = 0; what < 7; what++) {
-                hash = 31 * hash + head.dot(dot, what);
-            }
-        }
-        for (int back = 0; back < 12; back++) {
-            for (int what = 0; what < 3; what++) {
-                hash = 31 * hash + head.kept(back, what);
-            }
-        }
-        return hash;
-    }
-
     private static void change(HeadDots head, int kind) {
         switch (kind) {
             case 0: head.line(0xf0f0f0); break;
@@ -32,18 +13,23 @@ public final class UndoTest {
         }
     }
 
+    private static HeadDots ready() {
+        HeadDots head = new HeadDots();
+        head.line(0xff);
+        head.keep();
+        head.line(0xff00);
+        return head;
+    }
+
     private static void undoOfEach() {
+        long before = Check.stateOf(ready());
         for (int kind = 0; kind < 8; kind++) {
-            HeadDots head = new HeadDots();
-            head.line(0xff);
-            head.keep();
-            head.line(0xff00);
-            long before = stateOf(head);
+            HeadDots head = ready();
             change(head, kind);
-            Check.due("change " + kind + " changes", 1, stateOf(head) != before ? 1 : 0);
+            Check.due("change " + kind + " changes", 1, Check.stateOf(head) != before ? 1 : 0);
             Check.due("saved states", 3, head.count(18));
             Check.due("undo " + kind, 2, head.undo());
-            Check.due("state behind undo " + kind, before, stateOf(head));
+            Check.due("state behind undo " + kind, before, Check.stateOf(head));
         }
     }
 
@@ -79,36 +65,66 @@ public final class UndoTest {
         Check.due("saved states", 3, head.count(18));
     }
 
+    private static HeadDots behindManyCalls() {
+        HeadDots head = new HeadDots();
+        head.lines(0xff, 13);
+        head.set(0, 60);
+        head.paper(1);
+        head.line(5);
+        return head;
+    }
+
+    private static HeadDots kept() {
+        HeadDots head = behindManyCalls();
+        head.keep();
+        return head;
+    }
+
     private static void snapshots() {
         HeadDots head = new HeadDots();
         Check.dueThrow("restore of none", Check.STATE, head, head::restore);
         Check.due("keep", 0, head.keep());
         Check.due("keep is not undoable", 0, head.count(18));
         head.lines(0xff, 13);
-        head.set(0, 60);
-        head.paper(1);
-        head.line(5);
         Check.type(head, "rest");
-        long kept = stateOf(head);
-        Check.due("keep in place of the one before", 14, head.keep());
+        Check.due("keep in place of the one before", 13, head.keep());
         head.lines(0xffff, 5);
-        long later = stateOf(head);
-        Check.due("restore", 14, head.restore());
-        Check.due("state of the snapshot", kept, stateOf(head));
-        Check.due("saved states", 6, head.count(18));
+        Check.due("restore", 13, head.restore());
+        Check.due("saved states", 3, head.count(18));
         Check.due("the buffer stays", 5, head.append('1'));
-        Check.due("undo of restore", 5, head.undo());
-        Check.due("state before restore", later, stateOf(head));
+        Check.due("undo of restore", 2, head.undo());
+        Check.due("lines before restore", 18, head.count(1));
         head.rest(9);
-        Check.due("restore again", 14, head.restore());
-        Check.due("state of the snapshot", kept, stateOf(head));
+        Check.due("restore again", 13, head.restore());
         head.line(1);
-        Check.due("the snapshot is not changed by what is printed", 14, head.restore());
-        Check.due("state of the snapshot", kept, stateOf(head));
+        Check.due("the snapshot is not changed by what is printed", 13, head.restore());
         while (head.count(18) > 0) {
             head.undo();
         }
-        Check.due("undo leaves the snapshot", 14, head.restore());
+        Check.due("undo leaves the snapshot", 13, head.restore());
+    }
+
+    private static void stateOfTheSnapshot() {
+        long due = Check.stateOf(behindManyCalls());
+        HeadDots head = kept();
+        head.lines(0xffff, 5);
+        head.restore();
+        Check.due("state of the snapshot", due, Check.stateOf(head));
+        head = kept();
+        head.lines(0xffff, 5);
+        head.restore();
+        head.line(1);
+        head.rest(9);
+        head.restore();
+        Check.due("state of the snapshot, restored again", due, Check.stateOf(head));
+        HeadDots later = kept();
+        later.lines(0xffff, 5);
+        long dueLater = Check.stateOf(later);
+        head = kept();
+        head.lines(0xffff, 5);
+        head.restore();
+        head.undo();
+        Check.due("state before restore", dueLater, Check.stateOf(head));
     }
 
     public static void main(String[] args) {
@@ -116,6 +132,7 @@ public final class UndoTest {
         sixStates();
         savesWithoutAChange();
         snapshots();
+        stateOfTheSnapshot();
         Check.end();
     }
 }

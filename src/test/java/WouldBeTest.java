@@ -1,4 +1,4 @@
-/** Promises 18 to 24: ifPrinted, betterWay, coolIn, darkFrom, darkness, meanHeat, digest. */
+/** Promises 18 to 23: ifPrinted, betterWay, coolIn, darkFrom, darkness, meanHeat. */
 public final class WouldBeTest {
     private static final int ALL = 16777215;
 
@@ -146,63 +146,6 @@ public final class WouldBeTest {
         Check.dueDouble("one of one", 1.0, head.darkness());
     }
 
-    private static long digestOf(HeadDots head, String buffer) {
-        long hash = 3833;
-        for (int what = 0; what <= 18; what++) {
-            hash = 31 * hash + head.count(what);
-        }
-        for (int dot = 0; dot < 24; dot++) {
-            for (int what = 0; what <= 6; what++) {
-                hash = 31 * hash + head.dot(dot, what);
-            }
-        }
-        for (int back = 0; back < head.count(10); back++) {
-            for (int what = 0; what <= 2; what++) {
-                hash = 31 * hash + head.kept(back, what);
-            }
-            String text = Check.told(head, back);
-            for (int i = 0; i < text.length(); i++) {
-                hash = 31 * hash + text.charAt(i);
-            }
-        }
-        int[] lines = {16777215, 5592405};
-        for (int dots : lines) {
-            for (int what = 0; what <= 4; what++) {
-                hash = 31 * hash + head.ifPrinted(dots, what);
-            }
-        }
-        hash = 31 * hash + head.betterWay(65535);
-        hash = 31 * hash + head.coolIn(50);
-        hash = 31 * hash + head.darkFrom(0);
-        hash = 31 * hash + Double.doubleToLongBits(head.darkness());
-        hash = 31 * hash + Float.floatToIntBits(head.meanHeat());
-        hash = 31 * hash + buffer.length();
-        for (int i = 0; i < buffer.length(); i++) {
-            hash = 31 * hash + buffer.charAt(i);
-        }
-        return hash;
-    }
-
-    private static void digests() {
-        HeadDots head = new HeadDots();
-        Check.due("digest of a new object", digestOf(head, ""), head.digest());
-        head.set(0, 112);
-        Check.type(head, "line~");
-        int[] lines = {1, 3, 0xf0f0f, ALL, 0, 0x555555, 0xffff};
-        for (int round = 0; round < 3; round++) {
-            for (int dots : lines) {
-                head.set(4, 10 + 30 * round);
-                head.line(dots);
-                Check.due("digest", digestOf(head, "line~"), head.digest());
-                Check.due("digest again", digestOf(head, "line~"), head.digest());
-            }
-        }
-        for (int time = 1; time < 60; time++) {
-            head.rest(time % 5 + 1);
-            Check.due("digest of a cooler head", digestOf(head, "line~"), head.digest());
-        }
-    }
-
     private static void wrongInputs() {
         HeadDots head = hot();
         int[] far = {Integer.MIN_VALUE, -1, Integer.MAX_VALUE};
@@ -227,7 +170,6 @@ public final class WouldBeTest {
         coolIns();
         darkFroms();
         shares();
-        digests();
         wrongInputs();
         Check.end();
     }
