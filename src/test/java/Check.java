@@ -19,7 +19,7 @@ final class Check {
     static final String STATE = "IllegalStateException";
     static final String INDEX = "IndexOutOfBoundsException";
 
-    private static final int SAVED_STATES = 6;
+    private static final long MOST_MILLISECONDS = 300000L;
 
     private static int wrong = 0;
     private static int checked = 0;
@@ -28,7 +28,24 @@ final class Check {
     private static String held = "";
     private static Document document = null;
 
+    static {
+        Thread watch = new Thread(Check::endLate);
+        watch.setDaemon(true);
+        watch.start();
+    }
+
     private Check() {
+    }
+
+    /** A call that does not end is wrong, too; a test takes some seconds. */
+    private static void endLate() {
+        try {
+            Thread.sleep(MOST_MILLISECONDS);
+        } catch (InterruptedException e) {
+            return;
+        }
+        System.out.println(held + "a call does not end");
+        Runtime.getRuntime().halt(1);
     }
 
     /** What is checked from here on holds this sentence of the document, which stands at this place. */
@@ -44,6 +61,28 @@ final class Check {
     static void namesNoBoundary(String place, String quote) {
         endSentence();
         take(place, quote);
+    }
+
+    /** Runs them all; an exception that none of them expects ends its own test alone. */
+    static void runAll(Runnable... tests) {
+        for (Runnable test : tests) {
+            try {
+                test.run();
+            } catch (RuntimeException e) {
+                checked++;
+                tellWrong("an exception ends the test: " + e + " at " + placeIn(e));
+            }
+        }
+    }
+
+    /** The line of the test, since the line of the class tells less. */
+    private static String placeIn(RuntimeException e) {
+        for (StackTraceElement call : e.getStackTrace()) {
+            if (call.getClassName().endsWith("Test")) {
+                return call.toString();
+            }
+        }
+        return "?";
     }
 
     private static void take(String place, String quote) {
@@ -127,7 +166,7 @@ final class Check {
     static void dueSame(String what, HeadDots due, HeadDots got) {
         due(what + ": digest", due.digest(), got.digest());
         due(what + ": firstError", due.firstError(), got.firstError());
-        for (int i = 0; i <= SAVED_STATES; i++) {
+        for (int saved = due.count(18); saved > 0; saved--) {
             dueText(what + ": undo", outcome(due::undo), outcome(got::undo));
             due(what + ": digest behind undo", due.digest(), got.digest());
         }

@@ -353,8 +353,25 @@ public final class HeadSentencesTest {
         }
         Check.due("a hot dot that does not print", 31, hotFor300(6, 179, 330).line(1 << 2));
         Check.due("a line of no dots", 0, hotFor300(6, 179, 330).line(0));
+        Check.due("the longer wait of two dots, the second one's", 50 + 30, twoHotDots(2, 6).line(1 << 2 | 1 << 6));
+        Check.due("the longer wait of two dots, the first one's", 50 + 30, twoHotDots(6, 2).line(1 << 2 | 1 << 6));
         Check.due("the second dot of a part", 1 + 31, hotFor300(6, 51, 330).line(1 << 2 | 1 << 6));
         Check.due("the first dot of a part", 1 + 31, hotFor300(2, 51, 330).line(1 << 2 | 1 << 6));
+    }
+
+    /** One dot has a heat of 70 and a pulse of 290, the other one 100 and 280: waits of 30 and 50. */
+    private static HeadDots twoHotDots(int less, int more) {
+        HeadDots head = Heads.slowlyCooling(24);
+        head.set(0, 199);
+        head.line(1 << less);
+        head.rest(10);
+        head.line(1 << more);
+        head.rest(79);
+        head.set(0, 300);
+        head.set(2, 330);
+        Check.due("the shorter wait", 30, head.dot(less, 6));
+        Check.due("the longer wait", 50, head.dot(more, 6));
+        return head;
     }
 
     private static void waitsOfLaterParts() {
@@ -552,28 +569,29 @@ public final class HeadSentencesTest {
     }
 
     public static void main(String[] args) {
-        divisionsAreRoundedDown();
-        twentyFourDots();
-        linesAsNumbers();
-        cooling();
-        threePapers();
-        papersBring();
-        darkOrFaint();
-        pulseOfALine();
-        shortestPulse();
-        dotsAtOnce();
-        partsOfALine();
-        partedInTwoWays();
-        partsInOrder();
-        waitsAheadOfAPart();
-        waitsOfLaterParts();
-        hotterByThePulse();
-        timeOfAPart();
-        feeds();
-        leastBound();
-        latestTwelveLines();
-        linesAsTexts();
-        settings();
+        Check.runAll(
+            HeadSentencesTest::divisionsAreRoundedDown,
+            HeadSentencesTest::twentyFourDots,
+            HeadSentencesTest::linesAsNumbers,
+            HeadSentencesTest::cooling,
+            HeadSentencesTest::threePapers,
+            HeadSentencesTest::papersBring,
+            HeadSentencesTest::darkOrFaint,
+            HeadSentencesTest::pulseOfALine,
+            HeadSentencesTest::shortestPulse,
+            HeadSentencesTest::dotsAtOnce,
+            HeadSentencesTest::partsOfALine,
+            HeadSentencesTest::partedInTwoWays,
+            HeadSentencesTest::partsInOrder,
+            HeadSentencesTest::waitsAheadOfAPart,
+            HeadSentencesTest::waitsOfLaterParts,
+            HeadSentencesTest::hotterByThePulse,
+            HeadSentencesTest::timeOfAPart,
+            HeadSentencesTest::feeds,
+            HeadSentencesTest::leastBound,
+            HeadSentencesTest::latestTwelveLines,
+            HeadSentencesTest::linesAsTexts,
+            HeadSentencesTest::settings);
         Check.dueAllHeld("Terms", "The head", "Paper", "A line", "The strip", "Settings");
         Check.end();
     }

@@ -413,30 +413,31 @@ public final class LooksSentencesTest {
     }
 
     public static void main(String[] args) {
-        somethingOfADot();
-        numbersOfDots();
-        heatOfADot();
-        lastLineOfADot();
-        lineBeforeOfADot();
-        timesThatADotPrinted();
-        timesThatADotWasFaint();
-        pulseOfADot();
-        waitOfADot();
-        noSuchDot();
-        noSuchNumberOfADot();
-        aLineOfTheStrip();
-        latestLine();
-        darkDotsOfALine();
-        faintDotsOfALine();
-        partsOfALine();
-        notSoManyLines();
-        wrongLineOfTheStrip();
-        countsSoFar();
-        waitsSoFar();
-        greatestHeats();
-        paperStripAndSettings();
-        savedStates();
-        noSuchCount();
+        Check.runAll(
+            LooksSentencesTest::somethingOfADot,
+            LooksSentencesTest::numbersOfDots,
+            LooksSentencesTest::heatOfADot,
+            LooksSentencesTest::lastLineOfADot,
+            LooksSentencesTest::lineBeforeOfADot,
+            LooksSentencesTest::timesThatADotPrinted,
+            LooksSentencesTest::timesThatADotWasFaint,
+            LooksSentencesTest::pulseOfADot,
+            LooksSentencesTest::waitOfADot,
+            LooksSentencesTest::noSuchDot,
+            LooksSentencesTest::noSuchNumberOfADot,
+            LooksSentencesTest::aLineOfTheStrip,
+            LooksSentencesTest::latestLine,
+            LooksSentencesTest::darkDotsOfALine,
+            LooksSentencesTest::faintDotsOfALine,
+            LooksSentencesTest::partsOfALine,
+            LooksSentencesTest::notSoManyLines,
+            LooksSentencesTest::wrongLineOfTheStrip,
+            LooksSentencesTest::countsSoFar,
+            LooksSentencesTest::waitsSoFar,
+            LooksSentencesTest::greatestHeats,
+            LooksSentencesTest::paperStripAndSettings,
+            LooksSentencesTest::savedStates,
+            LooksSentencesTest::noSuchCount);
         Check.dueAllHeld("Promise 15", "Promise 16", "Promise 17");
         Check.end();
     }

@@ -378,31 +378,32 @@ public final class PrintingSentencesTest {
     }
 
     public static void main(String[] args) {
-        usedForSoManyCalls();
-        newHead();
-        printsALine();
-        dotsOfALine();
-        timeOfALine();
-        wrongLine();
-        printsSomeLines();
-        dotsOfSomeLines();
-        someTimes();
-        faintDotsOfSomeLines();
-        wrongLines();
-        letsTimePass();
-        timesOfARest();
-        greatestHeatOfARest();
-        wrongRest();
-        changesThePaper();
-        papers();
-        linesOfTheOldStrip();
-        wrongPaper();
-        changesASetting();
-        sevenSettings();
-        newValue();
-        previousValue();
-        noSuchSetting();
-        wrongValue();
+        Check.runAll(
+            PrintingSentencesTest::usedForSoManyCalls,
+            PrintingSentencesTest::newHead,
+            PrintingSentencesTest::printsALine,
+            PrintingSentencesTest::dotsOfALine,
+            PrintingSentencesTest::timeOfALine,
+            PrintingSentencesTest::wrongLine,
+            PrintingSentencesTest::printsSomeLines,
+            PrintingSentencesTest::dotsOfSomeLines,
+            PrintingSentencesTest::someTimes,
+            PrintingSentencesTest::faintDotsOfSomeLines,
+            PrintingSentencesTest::wrongLines,
+            PrintingSentencesTest::letsTimePass,
+            PrintingSentencesTest::timesOfARest,
+            PrintingSentencesTest::greatestHeatOfARest,
+            PrintingSentencesTest::wrongRest,
+            PrintingSentencesTest::changesThePaper,
+            PrintingSentencesTest::papers,
+            PrintingSentencesTest::linesOfTheOldStrip,
+            PrintingSentencesTest::wrongPaper,
+            PrintingSentencesTest::changesASetting,
+            PrintingSentencesTest::sevenSettings,
+            PrintingSentencesTest::newValue,
+            PrintingSentencesTest::previousValue,
+            PrintingSentencesTest::noSuchSetting,
+            PrintingSentencesTest::wrongValue);
         Check.dueAllHeld("Promise 1", "Promise 2", "Promise 3", "Promise 4", "Promise 5", "Promise 6");
         Check.end();
     }

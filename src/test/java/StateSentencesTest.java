@@ -453,24 +453,25 @@ public final class StateSentencesTest {
     }
 
     public static void main(String[] args) {
-        savesTheStateBefore();
-        savesAll();
-        butTheBuffer();
-        butTheSavedStates();
-        andTheSnapshot();
-        sixStates();
-        changesNothing();
-        namedFirst();
-        noneIsMinusOne();
-        looksChangeNothing();
-        restoresTheLatest();
-        statesThatAreLeft();
-        noSavedState();
-        takesASnapshot();
-        linesSoFar();
-        restoresTheSnapshot();
-        linesSoFarThen();
-        noSnapshot();
+        Check.runAll(
+            StateSentencesTest::savesTheStateBefore,
+            StateSentencesTest::savesAll,
+            StateSentencesTest::butTheBuffer,
+            StateSentencesTest::butTheSavedStates,
+            StateSentencesTest::andTheSnapshot,
+            StateSentencesTest::sixStates,
+            StateSentencesTest::changesNothing,
+            StateSentencesTest::namedFirst,
+            StateSentencesTest::noneIsMinusOne,
+            StateSentencesTest::looksChangeNothing,
+            StateSentencesTest::restoresTheLatest,
+            StateSentencesTest::statesThatAreLeft,
+            StateSentencesTest::noSavedState,
+            StateSentencesTest::takesASnapshot,
+            StateSentencesTest::linesSoFar,
+            StateSentencesTest::restoresTheSnapshot,
+            StateSentencesTest::linesSoFarThen,
+            StateSentencesTest::noSnapshot);
         Check.namesNoBoundary("Exceptions", "Ahead of the calls `line`, `lines`, `rest`, `paper`, `set` the interface"
             + " says: ---- printing.");
         Check.namesNoBoundary("Exceptions", "Ahead of the calls `append`, `clearBuffer`, `firstError`, `print`, `told`"

@@ -509,33 +509,34 @@ public final class TextSentencesTest {
     }
 
     public static void main(String[] args) {
-        bufferOfSixty();
-        partsBetweenSemicolons();
-        linesOfATextInDigits();
-        soManySuchLines();
-        papersOfAText();
-        restsOfAText();
-        emptyLinesOfAText();
-        noLeadingZero();
-        readFromLeftToRight();
-        appending();
-        codes();
-        newLength();
-        wrongCodes();
-        fullBuffer();
-        clearing();
-        lengthThatItHad();
-        firstErrors();
-        indexOfTheError();
-        doesWhatTheBufferTells();
-        undoableAsOneCall();
-        linesThatArePrinted();
-        notComplete();
-        characterOfALine();
-        latestLine();
-        indexOfACharacter();
-        noneOfALine();
-        wrongBackOrIndex();
+        Check.runAll(
+            TextSentencesTest::bufferOfSixty,
+            TextSentencesTest::partsBetweenSemicolons,
+            TextSentencesTest::linesOfATextInDigits,
+            TextSentencesTest::soManySuchLines,
+            TextSentencesTest::papersOfAText,
+            TextSentencesTest::restsOfAText,
+            TextSentencesTest::emptyLinesOfAText,
+            TextSentencesTest::noLeadingZero,
+            TextSentencesTest::readFromLeftToRight,
+            TextSentencesTest::appending,
+            TextSentencesTest::codes,
+            TextSentencesTest::newLength,
+            TextSentencesTest::wrongCodes,
+            TextSentencesTest::fullBuffer,
+            TextSentencesTest::clearing,
+            TextSentencesTest::lengthThatItHad,
+            TextSentencesTest::firstErrors,
+            TextSentencesTest::indexOfTheError,
+            TextSentencesTest::doesWhatTheBufferTells,
+            TextSentencesTest::undoableAsOneCall,
+            TextSentencesTest::linesThatArePrinted,
+            TextSentencesTest::notComplete,
+            TextSentencesTest::characterOfALine,
+            TextSentencesTest::latestLine,
+            TextSentencesTest::indexOfACharacter,
+            TextSentencesTest::noneOfALine,
+            TextSentencesTest::wrongBackOrIndex);
         Check.dueAllHeld("Input text", "Promise 7", "Promise 8", "Promise 9", "Promise 10", "Promise 11");
         Check.end();
     }

@@ -371,6 +371,10 @@ public final class WouldBeSentencesTest {
         Check.dueDouble("no dark dot", 0.0, empty.darkness());
         empty.undo();
         Check.dueDouble("behind undo", 1.0, empty.darkness());
+        HeadDots one = new HeadDots();
+        one.set(0, 50);
+        one.line(1);
+        Check.dueDouble("one dot, that is faint", 0.0, one.darkness());
         for (int dots = 1; dots <= 8; dots++) {
             HeadDots some = new HeadDots();
             some.line(1 << 23);
@@ -581,33 +585,34 @@ public final class WouldBeSentencesTest {
     }
 
     public static void main(String[] args) {
-        whatALineWouldBring();
-        dotsOfALine();
-        timeOfALine();
-        waitsOfALine();
-        partsOfALine();
-        faintDotsOfALine();
-        greatestHeatOfALine();
-        wrongLine();
-        findsTheBetterWay();
-        dotsOfTheBetterWay();
-        lessTime();
-        wrongLineOfTheBetterWay();
-        whenAllAreCool();
-        heatsToCoolTo();
-        timeUntilAllAreCool();
-        wrongHeat();
-        shortestDarkPulse();
-        dotsThatAreDark();
-        leastOfTheValues();
-        noSuchDot();
-        shareOfDarkDots();
-        meanHeats();
-        digests();
-        digestsOfTheStrip();
-        digestsOfWhatWouldBe();
-        digestsOfBits();
-        digestsOfTheBuffer();
+        Check.runAll(
+            WouldBeSentencesTest::whatALineWouldBring,
+            WouldBeSentencesTest::dotsOfALine,
+            WouldBeSentencesTest::timeOfALine,
+            WouldBeSentencesTest::waitsOfALine,
+            WouldBeSentencesTest::partsOfALine,
+            WouldBeSentencesTest::faintDotsOfALine,
+            WouldBeSentencesTest::greatestHeatOfALine,
+            WouldBeSentencesTest::wrongLine,
+            WouldBeSentencesTest::findsTheBetterWay,
+            WouldBeSentencesTest::dotsOfTheBetterWay,
+            WouldBeSentencesTest::lessTime,
+            WouldBeSentencesTest::wrongLineOfTheBetterWay,
+            WouldBeSentencesTest::whenAllAreCool,
+            WouldBeSentencesTest::heatsToCoolTo,
+            WouldBeSentencesTest::timeUntilAllAreCool,
+            WouldBeSentencesTest::wrongHeat,
+            WouldBeSentencesTest::shortestDarkPulse,
+            WouldBeSentencesTest::dotsThatAreDark,
+            WouldBeSentencesTest::leastOfTheValues,
+            WouldBeSentencesTest::noSuchDot,
+            WouldBeSentencesTest::shareOfDarkDots,
+            WouldBeSentencesTest::meanHeats,
+            WouldBeSentencesTest::digests,
+            WouldBeSentencesTest::digestsOfTheStrip,
+            WouldBeSentencesTest::digestsOfWhatWouldBe,
+            WouldBeSentencesTest::digestsOfBits,
+            WouldBeSentencesTest::digestsOfTheBuffer);
         Check.dueAllHeld("Promise 18", "Promise 19", "Promise 20", "Promise 21", "Promise 22", "Promise 23",
             "Promise 24");
         Check.end();
